@@ -657,7 +657,7 @@ public final class PromiseTest {
         two("lay 0 1", 1, 1);
         two("lay 0 2;lay 5 20", 16, 22);
         two("lay 0 2;slope 5 4;slope 4 0;patch 4;lay 3 20", 4, 20);
-        // by 1 and 2 it rolls to one cell, as that takes 2: the second hits the first
+        // down the first cell and up the second one: both roll to the second cell
         two("slope 0 1;slope 1 4", 11, 1);
         ForKeeps x = new ForKeeps();
         due("two(2)", x.two(2), OUTSIDE);
