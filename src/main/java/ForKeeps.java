@@ -657,9 +657,9 @@ public final class ForKeeps {
         static final int MOST_NUMBERS = 3;
         static final int PATCH = 0, SLOPE = 1, LAY = 2, STEADY = 3, SHAKY = 4, LUCKY = 5, BANK = 6, OWE = 7, EVEN = 8;
 
-        final char[] letters = new char[MOST_LETTERS];
         int length;
         int clauses;
+        private final char[] letters = new char[MOST_LETTERS];
         private final int[] verbs = new int[MOST_CLAUSES];
         private final int[] numbers = new int[MOST_CLAUSES * MOST_NUMBERS];
         /** The token that is read: from its first letter to behind its last one. */
@@ -691,6 +691,7 @@ public final class ForKeeps {
         int read(int cellsAtFirst, int playersAtFirst) {
             cells = cellsAtFirst;
             players = playersAtFirst;
+            clauses = 0;
             to = 0;
             for (int clause = 0; clause < MOST_CLAUSES; clause++) {
                 if (!readClause(clause)) {

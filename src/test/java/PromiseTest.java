@@ -125,6 +125,9 @@ public final class PromiseTest {
         fault("even 1", 5);
         fault("evenx", 0);
         fault("eve", 0);
+        fault("oven", 0);
+        fault("evenz", 0);
+        fault("aeven", 0);
         fault("Even", 0);
         fault("  evEn", 2);
         fault("even.", 4);
@@ -240,14 +243,17 @@ public final class PromiseTest {
         Checks.tell(x, "even");
         due("even", x.count(6), 0);
         due("marbles stay told", x.count(3), 24);
+        Checks.tell(x, "owe 0 1 4;owe 1 0 3");
         Checks.tell(x, "patch 6");
+        due("patch N: debts", x.count(6), 0);
         due("patch N: cells", x.count(0), 6);
         due("patch N: slopes", x.cell(1, 0), 2);
         due("patch N: marbles", x.count(3), 0);
         due("patch N: players", x.count(1), 0);
+        due("patch N: purses", x.count(5), 0);
         Checks.tell(x, "bank 1;bank 2;steady 3");
-        due("patch N: debts", x.count(6), 0);
-        due("patch N: purses", x.count(5), 6);
+        due("debts of those who come then", x.count(6), 0);
+        due("purses of those who come then", x.count(5), 6);
         due("patch of 14", patchOf("even" + ";even".repeat(13)), 14);
     }
 
@@ -398,7 +404,8 @@ public final class PromiseTest {
         due("shaky, draw 0 by 1", Checks.told("shaky 5").shoot(0, 1, zero), NONE);
         ForKeeps y = Checks.told("patch 9;steady 99;shaky 99");
         for (int shots = 0; shots < 20; shots++) {
-            due("shaky, big z, " + shots + " shots", y.shoot(1, 9, 9999 - shots), 7 + moreBy(draw(9999 - shots, shots)));
+            int z = 9999 - shots;
+            due("shaky, z " + z + ", " + shots + " shots", y.shoot(1, 9, z), 7 + moreBy(draw(z, shots)));
             y.undo();
             y.shoot(0, 0, 0);
         }
@@ -632,6 +639,8 @@ public final class PromiseTest {
         due("shaky", x.best(1, 0), 5);
         due("shaky, how much", x.best(1, 1), 9999 + 20);
         due("bank, how much", x.best(3, 1), 9999 + 8);
+        due("by 1", Checks.told("lay 0 2;steady 9").best(0, 0), 1);
+        due("by 9", Checks.told("patch 9;lay 8 2;steady 9").best(0, 0), 9);
         ForKeeps y = Checks.told("steady 9;shaky 9");
         due("nothing to hit", y.best(0, 0), 0);
         due("nothing to hit, how much", y.best(0, 1), 9999);
@@ -659,6 +668,8 @@ public final class PromiseTest {
         two("lay 0 2;slope 5 4;slope 4 0;patch 4;lay 3 20", 4, 20);
         // down the first cell and up the second one: both roll to the second cell
         two("slope 0 1;slope 1 4", 11, 1);
+        // behind a slope that only 9 comes over
+        two("patch 9;slope 6 3;slope 7 0;lay 7 5;lay 8 6", 99, 11);
         ForKeeps x = new ForKeeps();
         due("two(2)", x.two(2), OUTSIDE);
         due("two(-1)", x.two(-1), OUTSIDE);
