@@ -1,6 +1,7 @@
 /** Compares answers with what is due, and counts those that differ. */
 final class Checks {
     private final String name;
+    private String sentence = "";
     private int made;
     private int wrong;
 
@@ -12,12 +13,29 @@ final class Checks {
         made++;
         if (got != want) {
             wrong++;
-            System.out.println(name + ": " + call + " answered " + got + ", due is " + want);
+            System.out.println(name + ": " + sentence + call + " answered " + got + ", due is " + want);
         }
     }
 
     void isTrue(String what, boolean holds) {
         due(what, holds ? 1 : 0, 1);
+    }
+
+    void same(String what, String got, String want) {
+        made++;
+        if (!got.equals(want)) {
+            wrong++;
+            System.out.println(name + ": " + sentence + what + ":\n  is     " + got + "\n  was    " + want);
+        }
+    }
+
+    /** What the checks that follow are for: told with each that is wrong. */
+    void under(String newSentence) {
+        sentence = newSentence.isEmpty() ? "" : "'" + newSentence + "': ";
+    }
+
+    int made() {
+        return made;
     }
 
     int wrong() {
