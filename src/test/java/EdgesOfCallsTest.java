@@ -371,9 +371,10 @@ public final class EdgesOfCallsTest {
         edges.due("shots", y.keep(1), 1);
         y.shoot(0, 4, 0);
         y.shoot(0, 2, 0);
-        y.pay(0, 1, 2);
+        edges.due("all is paid since", y.pay(0, 1, 2), 0);
         y.seen(2, 1);
         edges.due("shots again", y.back(1), 1);
+        edges.due("it is owed again", y.debt(0, 1), 2);
         edges.isTrue("marbles, purses, debts, shots", Edges.brief(y).equals(kept));
         edges.due("seen is not kept: it stays", y.count(7), 2);
         edges.due("what could be undone is not kept", y.count(8), 0);
